@@ -931,7 +931,6 @@ public final class ClassHouse {
         void begin(int loader, int type) {
             this.loader = loader;
             this.type = type;
-            count = 0;
             at = 0;
             position = 0;
             for (int i = 0; i < NAMES; i++) {
@@ -1000,7 +999,6 @@ public final class ClassHouse {
             for (int i = 0; i < n; i++) {
                 counts[bits[from + i]]++;
             }
-            counts[0] = 0;
             filled = 0;
             nexts[1] = 0;
             for (int b = 1; b <= LONGEST; b++) {

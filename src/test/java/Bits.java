@@ -74,6 +74,45 @@ final class Bits {
         return this;
     }
 
+    /** A block's head that gives each letter and each distance the bits of its row. */
+    Bits codes(boolean last, int[] letterBits, int[] distanceBits) {
+        int[] markBits = new int[19];
+        java.util.Arrays.fill(markBits, 0, 16, 5);
+        markBits[18] = 1;
+        block(last, 2).head(letterBits.length, distanceBits.length, markBits);
+        int[] row = java.util.Arrays.copyOf(letterBits, letterBits.length + distanceBits.length);
+        System.arraycopy(distanceBits, 0, row, letterBits.length, distanceBits.length);
+        for (int i = 0; i < row.length; i++) {
+            int zeros = 0;
+            while (i + zeros < row.length && row[i + zeros] == 0 && zeros < 138) {
+                zeros++;
+            }
+            if (zeros >= 11) {
+                code("0").number(zeros - 11, 7);
+                i += zeros - 1;
+            } else {
+                high(16 + row[i], 5);
+            }
+        }
+        return this;
+    }
+
+    /** The code of each sign as text of 0 and 1. */
+    static String[] codesOf(int[] bits) {
+        String[] codes = new String[bits.length];
+        int next = 0;
+        for (int length = 1; length <= 15; length++) {
+            next <<= 1;
+            for (int i = 0; i < bits.length; i++) {
+                if (bits[i] == length) {
+                    codes[i] = new Bits().high(next, length).text.toString();
+                    next++;
+                }
+            }
+        }
+        return codes;
+    }
+
     int[] bytes() {
         int n = (text.length() + 7) / 8;
         int[] row = new int[n];

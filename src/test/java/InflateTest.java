@@ -21,6 +21,9 @@ public final class InflateTest {
         marksThatRepeat();
         fullCodes();
         distanceCodes();
+        longCodes();
+        noCodes();
+        bitsThatRunOut();
         asTheLibraryDeflates();
         asTheLibraryInflates();
         CHECK.end();
@@ -75,6 +78,12 @@ public final class InflateTest {
         due("stored, one number", bits().block(true, 0).toByte().number(0, 16), CORRUPT);
         due("stored, most bytes",
                 bits().block(true, 0).toByte().number(65535, 16).number(0, 16), CORRUPT);
+        due("stored, one of many bytes too few", bits().block(true, 0).toByte().number(9, 16)
+                .number(65526, 16).code("01".repeat(32)), CORRUPT);
+        for (int n = 0; n < 9; n++) {
+            due("stored behind " + n, bits().block(false, 1).letters("\220".repeat(n)).letter(256)
+                    .stored(true, "xy"), "\220".repeat(n) + "xy");
+        }
         due("kind 3", bits().block(true, 3), CORRUPT);
         due("kind 3, not the last", bits().block(false, 3).stored(true, "a"), CORRUPT);
     }
@@ -385,6 +394,93 @@ public final class InflateTest {
         due("three of one bit", abAndEnd(3).code("010101").code("10").code("11"), CORRUPT);
         due("four of two bits", abAndEnd(4).code("10101010").code("10").code("11"), "b");
         due("five of two bits", abAndEnd(5).code("1010101010").code("10").code("11"), CORRUPT);
+    }
+
+    /** Letters from a on with 1, 2, 3 and so on bits, the last one and the end with the most. */
+    private static int[] steps(int most) {
+        int[] row = new int[257];
+        for (int i = 1; i <= most; i++) {
+            row['a' + i - 1] = i;
+        }
+        row[256] = most;
+        return row;
+    }
+
+    private static void longCodes() {
+        for (int most = 1; most <= 15; most++) {
+            int[] row = steps(most);
+            String[] codes = Bits.codesOf(row);
+            Bits packed = bits().codes(true, row, new int[1]);
+            StringBuilder want = new StringBuilder();
+            for (int i = 0; i < most; i++) {
+                packed.code(codes['a' + i]).code(codes['a' + most - 1 - i]);
+                want.append((char) ('a' + i)).append((char) ('a' + most - 1 - i));
+            }
+            due("codes of " + most + " bits", packed.code(codes[256]), want.toString());
+            row['a' + most - 1] = 0;
+            due("not full by one of " + most, bits().codes(true, row, new int[1]).code(codes[256]),
+                    CORRUPT);
+        }
+        int[] row = steps(15);
+        row['z'] = 15;
+        due("one of 15 bits too many", bits().codes(true, row, new int[1])
+                .code("1".repeat(15)), CORRUPT);
+        int[] far = new int[16];
+        for (int i = 0; i < 16; i++) {
+            far[i] = Math.min(i + 1, 15);
+        }
+        int[] copying = steps(2);
+        copying = Arrays.copyOf(copying, 258);
+        copying['b'] = 2;
+        copying[256] = 3;
+        copying[257] = 3;
+        due("distances of many bits", bits().codes(true, copying, far).code("0").code("10")
+                .code("0").code("0").code("0").code("111").code(Bits.codesOf(far)[4]).code("0")
+                .code("111").code(Bits.codesOf(far)[2]).code("110"), "abaaaabaaba");
+        due("a distance of 15 bits", bits().block(false, 1).letters("xyza").letter(281)
+                .number(0, 5).distance(0).letter(256).codes(true, copying, far).code("111")
+                .code(Bits.codesOf(far)[14]).number(6, 6).code("110"),
+                "xyz" + times("a", 132) + "xyz");
+        due("a distance too far by a long code", bits().codes(true, copying, far).code("0")
+                .code("111").code(Bits.codesOf(far)[15]).number(0, 6).code("110"), CORRUPT);
+    }
+
+    /** A length whose distance has no code, with all bits behind it that could be taken. */
+    private static void noCodes() {
+        int[] row = Arrays.copyOf(steps(1), 258);
+        row[256] = 2;
+        row[257] = 2;
+        for (int more = 0; more < 24; more++) {
+            due("no distance, " + more + " bits more", bits().codes(true, row, new int[1])
+                    .code("0").code("11").code("0".repeat(more)).code("10"), CORRUPT);
+            due("the other bit, " + more + " bits more", bits().codes(true, row, new int[] {1})
+                    .code("0").code("11").code("1".repeat(more + 1)).code("10"), CORRUPT);
+        }
+        due("the one bit", bits().codes(true, row, new int[] {1}).code("0").code("11").code("0")
+                .code("10"), "aaaa");
+    }
+
+    /** Too few bits for what is behind a length or a distance, but enough for what follows. */
+    private static void bitsThatRunOut() {
+        int[] row = Arrays.copyOf(steps(1), 285);
+        row[256] = 2;
+        row[281] = 3;
+        row[257] = 3;
+        int[] one = {1};
+        int[] tenth = new int[11];
+        tenth[10] = 1;
+        int corrupt = 0;
+        for (int n = 1; n < 20; n++) {
+            Bits length = bits().codes(true, row, one).code("0".repeat(n)).code("111").code("0")
+                    .code("10");
+            String want = inflated(length.bytes());
+            corrupt += want.equals(CORRUPT) ? 1 : 0;
+            due("length without its bits behind " + n, length, want);
+            Bits distance = bits().codes(true, row, tenth).code("0".repeat(n + 50)).code("110")
+                    .code("0").code("10");
+            due("distance without its bits behind " + n, distance, inflated(distance.bytes()));
+        }
+        CHECK.due("some run out", corrupt > 0, true);
     }
 
     private static String textOf(byte[] row, int n) {

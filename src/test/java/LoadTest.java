@@ -230,6 +230,12 @@ public final class LoadTest {
         House h = new House(CHECK, "root with interfaces");
         h.entry("aA", 0, House.file(1, PUBLIC, "aA", "", "aB")).archive(0).loader(-1, 0);
         h.fails(0, "aA", 7, "aB");
+        String[] halves = {"a\0", "\0A", "\0\1"};
+        for (String half : halves) {
+            House root = new House(CHECK, "root with half a super class");
+            root.simple("aA", half).archive(0).loader(-1, 0);
+            root.fails(0, "aA", 3, "aA");
+        }
         House root = new House(CHECK, "root with a super class");
         root.simple("aA", "aB").simple("aB", "aA").archive(0).loader(-1, 0);
         root.fails(0, "aA", 3, "aA");
@@ -379,6 +385,14 @@ public final class LoadTest {
         h.loads(0, "bB", 2);
         h.due("mend archive 0", h.x.spoil(0, 0, 1), true);
         h.loads(0, "bB", 2);
+        House undone = twoOfB("a manifest that is none any more", "Z:abc\n", "");
+        undone.loads(0, "bA", 1);
+        int record = 8 + 2 + 10 + 10 + 2 + 6;
+        undone.due("the name M", undone.x.peek(0, record + 3 * 14 + 1), 'M');
+        undone.set(0, record + 3 * 14 + 1, 'N');
+        undone.loads(0, "bB", 2);
+        undone.loads(0, "cA", 3);
+        undone.loads(0, "cB", 4);
         House late = withRoot("sealed later");
         late.simple("bA", "aA").archive(0).loader(-1, 0, 1);
         late.loads(0, "bA", 1);

@@ -86,7 +86,7 @@ public final class PathTest {
         String[] good = {"", "P:0\n", "P:0123\n", "P:3210\n", "P:00\n", "P:\n", "Z:\n", "Z:abcd\n",
             "Z:aab\n", "V:Y\n", "V:\n Y\n", "P:0\n 1\n 23\n", "P:0\n \n 1\n", "A:\n", "A:xyz!~ \n",
             "Q:9z\nZ:a\n", "P:1\nZ:d\nV:Y\n", "X:123456\n", "X:\n 1234567\n", "X::::\n",
-            "P:333333\n 333\n", "X:a\n  b\n", "A:V\nB:V\nC:P\n", "V:Y\n \n"};
+            "P:333333\n 333\n", "P:00123\n", "P:0123\n 0123\n", "X:a\n  b\n", "A:V\nB:V\nC:P\n", "V:Y\n \n"};
         for (String text : good) {
             dueManifest(text, true);
         }
@@ -145,6 +145,23 @@ public final class PathTest {
         h.set(0, record + 1, 'N');
         h.due("all(0, a, 0) without M", h.x.all(0, 'a', 0), 1);
         h.due("all(0, a, 1) without M", h.x.all(0, 'a', 1), -1);
+        startsAnew();
+    }
+
+    /** What an earlier reading of a manifest has left does not count. */
+    private static void startsAnew() {
+        House h = new House(CHECK, "blank first");
+        h.text("M", "A:x\nB:\n").text("a", "1").archive(0);
+        h.dueContent(1, "1");
+        h.set(0, 2, ' ');
+        int sum = House.sum(House.bytes(" :x\nB:\n"));
+        for (int i = 0; i < 4; i++) {
+            h.set(0, 12 + 3 + i, sum >>> 8 * i & 255);
+        }
+        h.dueContent(1, "-2");
+        h.set(0, 12 + 1, 'N');
+        h.dueContent(0, " :x\nB:\n");
+        h.dueContent(1, "1");
     }
 
     private static void contents() {
@@ -183,7 +200,10 @@ public final class PathTest {
         h.due("all(0, a, highest)", h.x.all(0, 'a', Integer.MAX_VALUE), -1);
         h.due("all(0, a, 16)", h.x.all(0, 'a', 16), -1);
         h.due("all(1, a, 0)", h.x.all(1, 'a', 0), -1);
-        h.due("all(-1, a, 0)", h.x.all(-1, 'a', 0), -1);
+        int[] noLoaders = {-1, 3, 4, 5, Integer.MAX_VALUE, Integer.MIN_VALUE};
+        for (int loader : noLoaders) {
+            h.due("all(" + loader + ", a, 0)", h.x.all(loader, 'a', 0), -1);
+        }
         h.due("all(0, 0, 0)", h.x.all(0, 0, 0), -1);
         h.due("all(0, 32, 0)", h.x.all(0, 32, 0), -1);
         h.due("all(0, -1, 0)", h.x.all(0, -1, 0), -1);
