@@ -19,6 +19,7 @@ public final class InflateTest {
         codesOfTheirOwn();
         marks();
         marksThatRepeat();
+        marksOneByOne();
         fullCodes();
         distanceCodes();
         longCodes();
@@ -362,6 +363,16 @@ public final class InflateTest {
         due("16 over from letters to distances, too many for a code",
                 nothing(nothing(repeating(257, 3), 97).code("01"), 158).code("01")
                 .code("10").number(0, 2).code("0").code("1"), CORRUPT);
+    }
+
+    /** Marks 0 and 8 of one bit: 256 letters of 8 bits, each told by itself. */
+    private static void marksOneByOne() {
+        int[] markBits = new int[19];
+        markBits[0] = 1;
+        markBits[8] = 1;
+        due("each told by itself", bits().block(true, 2).head(257, 1, markBits).code("0")
+                .code("1".repeat(256)).code("0").high('a' - 1, 8).high('z' - 1, 8).high(255, 8),
+                "az");
     }
 
     private static String nothingText(int n) {

@@ -344,7 +344,7 @@ public final class LoadTest {
     private static House twoOfB(String about, String first, String second) {
         House h = withRoot(about);
         h.simple("bA", "aA").simple("cA", "aA").text("M", first).archive(0);
-        h.simple("bB", "aA").simple("cB", "aA").text("M", second).archive(1);
+        h.simple("bB", "aA").simple("cB", "aA").simple("aB", "aA").text("M", second).archive(1);
         return h.loader(-1, 0, 1);
     }
 
@@ -359,6 +359,10 @@ public final class LoadTest {
         first.fails(0, "bB", 10, "bB");
         first.loads(0, "cA", 2);
         first.loads(0, "cB", 3);
+        House root = twoOfB("the root's package", "Z:a\n", "");
+        root.fails(0, "aC", 1, "aC");
+        root.loads(0, "aA", 0);
+        root.fails(0, "aB", 10, "aB");
         House second = twoOfB("sealed by the second", "Z:a\n", "Z:ac\n b\n");
         second.loads(0, "bA", 1);
         second.fails(0, "bB", 10, "bB");
@@ -393,6 +397,7 @@ public final class LoadTest {
         undone.loads(0, "bB", 2);
         undone.loads(0, "cA", 3);
         undone.loads(0, "cB", 4);
+        undone.loads(0, "aB", 5);
         House late = withRoot("sealed later");
         late.simple("bA", "aA").archive(0).loader(-1, 0, 1);
         late.loads(0, "bA", 1);
