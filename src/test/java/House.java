@@ -9,13 +9,14 @@ final class House {
     static final int STORED = 0;
     static final int DEFLATED = 8;
 
-    final ClassHouse x = new ClassHouse();
+    final Counted x;
     private final Check check;
     private final String about;
 
     House(Check check, String about) {
         this.check = check;
         this.about = about;
+        x = new Counted(check, about);
     }
 
     static int name(String text) {
@@ -68,9 +69,7 @@ final class House {
     }
 
     House draft(int... row) {
-        for (int b : row) {
-            due("put(" + b + ", 1)", x.put(b, 1), true);
-        }
+        due("put of " + row.length + " bytes", x.putAll(row), true);
         return this;
     }
 
@@ -121,12 +120,14 @@ final class House {
 
     /** The content of a place as text, or the number -2 if it has none. */
     String contentOf(int place) {
-        if (x.content(place, 0) == -2) {
+        StringBuilder text = new StringBuilder();
+        int b = x.content(place, 0);
+        if (b == -2) {
             return "-2";
         }
-        StringBuilder text = new StringBuilder();
-        for (int i = 0; x.content(place, i) != -1; i++) {
-            text.append((char) x.content(place, i));
+        while (b >= 0) {
+            text.append((char) b);
+            b = x.content(place, text.length());
         }
         return text.toString();
     }

@@ -7,7 +7,7 @@ import java.util.zip.Inflater;
 /** What is inflated and what is corrupt, seen through enter (promise 3) and content (15). */
 public final class InflateTest {
     private static final Check CHECK = new Check();
-    private static final String CORRUPT = "-2";
+    private static final String CORRUPT = Packed.CORRUPT;
 
     public static void main(String[] args) {
         storedBlocks();
@@ -35,16 +35,7 @@ public final class InflateTest {
     }
 
     private static void due(String what, int[] packed, String want) {
-        House h = new House(CHECK, what);
-        h.entry("x", House.DEFLATED, packed).archive(0);
-        h.dueContent(0, want);
-        int record = 2 + packed.length;
-        boolean whole = !want.equals(CORRUPT);
-        int sum = whole ? House.sum(House.bytes(want)) : 0;
-        h.due("the first byte of the sum", h.x.peek(0, record + 3), sum & 255);
-        h.due("the last byte of the sum", h.x.peek(0, record + 6), sum >>> 24);
-        h.due("the size", h.x.peek(0, record + 7), whole ? want.length() : 0);
-        h.due("the size's higher byte", h.x.peek(0, record + 8), 0);
+        Packed.due(CHECK, what, packed, want);
     }
 
     private static Bits bits() {

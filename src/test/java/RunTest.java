@@ -5,7 +5,7 @@ import java.util.Random;
 /** Long runs: no call throws but as the document says, the same calls answer the same, room. */
 public final class RunTest {
     private static final Check CHECK = new Check();
-    private static final int CALLS = 512;
+    private static final int MOST_CALLS_OF_A_STEP = 8;
     private static final int[] WILD = {
         -1, -2, 4, 5, 6, 7, 8, 31, 32, 33, 239, 240, 255, 256, 65535, 1 << 24,
         Integer.MAX_VALUE, Integer.MIN_VALUE, Integer.MIN_VALUE + 1
@@ -48,7 +48,7 @@ public final class RunTest {
     }
 
     /** Drafts a class file, a text, or bytes of any kind, and enters it. */
-    private static int make(ClassHouse x, Random random) {
+    private static int make(Counted x, Random random) {
         int name = someName(random);
         int kind = random.nextInt(10);
         int[] row = new int[random.nextInt(30)];
@@ -67,13 +67,11 @@ public final class RunTest {
                 row[i] = random.nextInt(256);
             }
         }
-        for (int b : row) {
-            x.put(b, 1);
-        }
+        x.putAll(row);
         return x.enter(name, random.nextInt(8) == 0 ? some(random, 9) : 0) ? 1 : 0;
     }
 
-    private static void dueKind(ClassHouse x, RuntimeException e, int faultBefore) {
+    private static void dueKind(Counted x, RuntimeException e, int faultBefore) {
         int fault = x.fault();
         Class<?> want = e instanceof IndexOutOfBoundsException ? IndexOutOfBoundsException.class
                 : fault == 1 || fault == 2 ? java.util.NoSuchElementException.class
@@ -85,7 +83,7 @@ public final class RunTest {
         CHECK.due("a fault is told, or stays", stays ? fault == faultBefore : fault != 0, true);
     }
 
-    private static int loadOrServe(ClassHouse x, Random random, int which) {
+    private static int loadOrServe(Counted x, Random random, int which) {
         int before = x.fault();
         try {
             int answer = which == 0 ? x.load(some(random, 3), someClass(random))
@@ -103,7 +101,7 @@ public final class RunTest {
         }
     }
 
-    private static int call(ClassHouse x, Random random) {
+    private static int call(Counted x, Random random) {
         switch (random.nextInt(16)) {
             case 0: return x.put(random.nextLong(), some(random, 9)) ? 1 : 0;
             case 1: return make(x, random);
@@ -126,11 +124,11 @@ public final class RunTest {
 
     private static long run(int seed) {
         Random random = new Random(seed);
-        ClassHouse x = new ClassHouse();
+        Counted x = new Counted(CHECK, "run " + seed);
         long answers = x.open(-1);
         furnish(x, random);
         try {
-            for (int i = 0; i < CALLS / 2; i++) {
+            while (x.calls() <= Counted.MOST_CALLS - MOST_CALLS_OF_A_STEP) {
                 answers = 31 * answers + call(x, random);
             }
         } catch (RuntimeException e) {
@@ -140,7 +138,7 @@ public final class RunTest {
     }
 
     /** A root and a list of services, so that some loads succeed, and archives of any kind. */
-    private static void furnish(ClassHouse x, Random random) {
+    private static void furnish(Counted x, Random random) {
         enter(x, "aA", House.file(1, 1, "aA", ""));
         enter(x, "bA", House.file(1, 5, "bA", "aA"));
         enter(x, "SbA", House.bytes("bB\ncA"));
@@ -156,29 +154,21 @@ public final class RunTest {
         }
     }
 
-    private static void enter(ClassHouse x, String name, int[] row) {
-        for (int b : row) {
-            x.put(b, 1);
-        }
+    private static void enter(Counted x, String name, int[] row) {
+        x.putAll(row);
         x.enter(House.name(name), 0);
     }
 
     /** The dearest calls again and again: they may make next to nothing. */
     private static void keepsItsRoom() {
-        House h = new House(CHECK, "room");
-        h.simple("aA", "").simple("bA", "aA").text("M", "P:123\nV:Y\n").archive(0);
-        h.entry("M", 8, new Bits().block(true, 1).letters("P:321\n").letter(256).bytes());
-        h.simple("bB", "bA").simple("bC", "bB").archive(1);
-        h.simple("bD", "bC").simple("bE", "bD").simple("bF", "bE").archive(2);
-        h.text("SaA", "aA\nbA\nbB\nbC\n").archive(3);
-        h.loader(-1, 0, 1, 2, 3).loader(0, 0, 1, 2, 3).loader(1, 0, 1, 2, 3).loader(2, 0, 1, 2, 3);
         ThreadMXBean bean = (ThreadMXBean) ManagementFactory.getThreadMXBean();
         long id = Thread.currentThread().getId();
-        askMuch(h.x);
+        askMuch(dearest().x);
+        House h = dearest();
         long before = bean.getThreadAllocatedBytes(id);
         askMuch(h.x);
         long made = bean.getThreadAllocatedBytes(id) - before;
-        h.due("bytes made by 512 calls are few (" + made + ")", made < 100_000, true);
+        h.due("bytes made by many calls are few (" + made + ")", made < 100_000, true);
         before = bean.getThreadAllocatedBytes(id);
         ClassHouse another = new ClassHouse();
         made = bean.getThreadAllocatedBytes(id) - before;
@@ -186,8 +176,19 @@ public final class RunTest {
         h.due("its answer", another.fault(), 0);
     }
 
-    private static void askMuch(ClassHouse x) {
-        for (int i = 0; i < CALLS / 8; i++) {
+    private static House dearest() {
+        House h = new House(CHECK, "room");
+        h.simple("aA", "").simple("bA", "aA").text("M", "P:123\nV:Y\n").archive(0);
+        h.entry("M", 8, new Bits().block(true, 1).letters("P:321\n").letter(256).bytes());
+        h.simple("bB", "bA").simple("bC", "bB").archive(1);
+        h.simple("bD", "bC").simple("bE", "bD").simple("bF", "bE").archive(2);
+        h.text("SaA", "aA\nbA\nbB\nbC\n").archive(3);
+        return h.loader(-1, 0, 1, 2, 3).loader(0, 0, 1, 2, 3).loader(1, 0, 1, 2, 3)
+                .loader(2, 0, 1, 2, 3);
+    }
+
+    private static void askMuch(Counted x) {
+        while (x.calls() <= Counted.MOST_CALLS - MOST_CALLS_OF_A_STEP) {
             x.load(3, House.number("bF"));
             x.services(3, 0);
             x.next();
