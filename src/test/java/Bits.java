@@ -6,6 +6,13 @@ final class Bits {
 
     private final StringBuilder text = new StringBuilder();
 
+    Bits() {
+    }
+
+    Bits(Bits other) {
+        text.append(other.text);
+    }
+
     /** A number with its lowest bit first. */
     Bits number(int v, int bits) {
         for (int i = 0; i < bits; i++) {

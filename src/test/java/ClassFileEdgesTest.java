@@ -165,13 +165,15 @@ public final class ClassFileEdgesTest {
         due("the first byte 0", 3, House.file(1, PUBLIC, "bA", "\0A"));
         due("the second byte 0", 3, House.file(1, PUBLIC, "bA", "a\0"));
         due("bytes 0 and 1", 3, House.file(1, PUBLIC, "bA", "\0\1"));
+        due("bytes 1 and 1", 3, House.file(1, PUBLIC, "bA", "\1\1"));
         due("the root", 0, House.file(1, PUBLIC, "bA", "aA"));
         due("another one", 0, House.file(1, PUBLIC, "bA", "bD"));
     }
 
     /** "or one (and is called so)": fault 3 */
     private static void rootWithoutSuperClass() {
-        String[] uppers = {"", "aA", "aB", "bA", "dH", "\0A", "a\0"};
+        String[] uppers = {"", "aA", "aB", "bA", "dH", "\0A", "a\0", "\0\1", "\1\0", "\1\1", "AA",
+            "\1\377", "\200\200"};
         for (String upper : uppers) {
             House h = new House(CHECK, "the root with the super class <" + upper + ">");
             h.simple("aA", upper).simple("aB", "aA").archive(0).loader(-1, 0);

@@ -97,6 +97,16 @@ public final class InflateEdgesTest {
                         n == there ? "<KZ".substring(0, n) : CORRUPT);
             }
         }
+        for (int n = 4; n <= 115; n++) {
+            for (int there = n - 1; there <= n; there++) {
+                Bits packed = bits().block(true, 0).toByte().number(n, 16).number(65535 - n, 16);
+                for (int i = 0; i < there; i++) {
+                    packed.number('s', 8);
+                }
+                due(n + " stored, " + there + " there", packed,
+                        there == n ? "s".repeat(n) : CORRUPT);
+            }
+        }
         due("bytes 0 and 255", bits().stored(true, "\0\377\200\177"), "\0\377\200\177");
         int[] many = {256, 257, 511, 512, 32768, 65535};
         for (int n : many) {
@@ -199,6 +209,8 @@ public final class InflateEdgesTest {
         for (int d = 16; d < 32; d++) {
             int extra = Math.min(d / 2 - 1, 13);
             due("distance " + d, fixed().letters("abc").letter(257).distance(d).number(0, extra)
+                    .letter(256), CORRUPT);
+            due("distance " + d + " and the end", fixed().letters("abc").letter(257).distance(d)
                     .letter(256), CORRUPT);
             due("distance " + d + " without bits", fixed().letters("abc").letter(257).distance(d)
                     .letter(256).number(0, 24), CORRUPT);
@@ -395,6 +407,10 @@ public final class InflateEdgesTest {
             Bits first = told(257, 1).code(MARKS[16]).number(more, 2).code(MARKS[1]);
             marks(first, 0, 256 - 4 - more).code(MARKS[1]).code(MARKS[0]);
             due("16 first, and " + more, first.code("01"), CORRUPT);
+            Bits passed = told(257, 1).code(MARKS[16]).number(more, 2);
+            marks(passed, 0, 97).code(MARKS[1]);
+            marks(passed, 0, 158).code(MARKS[1]).code(MARKS[0]);
+            due("16 first, and " + more + ", all told behind", passed.code("01"), CORRUPT);
             Bits second = told(257, 1).code(MARKS[0]).code(MARKS[16]).number(more, 2)
                     .code(MARKS[1]);
             marks(second, 0, 256 - 5 - more).code(MARKS[1]).code(MARKS[0]);
@@ -441,7 +457,12 @@ public final class InflateEdgesTest {
         marks(packed, 0, 158).code(MARKS[1]).code(MARKS[0]);
         packed.code(MARKS[mark]).number(more, extra);
         marks(packed, 0, Math.max(to - times, 0));
-        due(mark + " makes " + times + " of " + to, packed.code("01"),
+        if (times > to) {
+            due(mark + " makes " + times + " of " + to, new Bits(packed).code("01"), CORRUPT);
+            // As many as there are to come, so that all would be told without the mark.
+            marks(packed, 0, to);
+        }
+        due(mark + " makes " + times + " of " + to + ", told", packed.code("01"),
                 times <= to ? "a" : CORRUPT);
     }
 

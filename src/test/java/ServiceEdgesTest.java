@@ -29,6 +29,7 @@ public final class ServiceEdgesTest {
         interfacesAre15();
         superClassesAndInterfaces();
         classesOfAnotherLoader();
+        loadsByItsLoader();
         contentOf200Bytes();
         faultsOfNext();
         CHECK.end();
@@ -599,21 +600,43 @@ public final class ServiceEdgesTest {
         h.dueNext(-1);
     }
 
+    /** "It is loaded" by the iteration's loader; that the parent missed it is no fault. */
+    private static void loadsByItsLoader() {
+        House h = base("its loader", "cA\nbB");
+        h.simple("cA", "bB").archive(1).loader(0, 1);
+        h.serves(1, "bA", 1);
+        dueNextName(h, "cA");
+        h.due("its loader", h.x.type(h.latest, 1), 1);
+        dueNextName(h, "bB");
+        h.dueNext(-1);
+        h.serves(0, "bA", 1);
+        h.nextFails(14, number("cA"));
+        dueNextName(h, "bB");
+        h.dueNext(-1);
+    }
+
     /** A list may have 200 bytes, and is told to its last one. */
     private static void contentOf200Bytes() {
-        // 66 lines of 3 bytes and the two letters of the last one.
-        int[] packed = new Bits().block(true, 1).letters("bB\n").letter(283).number(0, 5)
-                .distance(2).letters("bC").letter(256).bytes();
-        House h = base("200 bytes", "bD");
-        h.entry("SbA", 8, packed).archive(1);
-        h.due("append(0, 1)", h.x.append(0, 1), true);
-        h.due("content(8, 199)", h.x.content(8, 199), 'C');
-        h.due("content(8, 200)", h.x.content(8, 200), -1);
-        h.serves(0, "bA", 2);
-        h.nextFails(15, number("bD"));
-        dueNextName(h, "bB");
-        dueNextName(h, "bC");
-        h.dueNext(-1);
+        String[] lastLines = {"bC", "  ", "##", " #", "# ", "b ", "\n\n", "\nb"};
+        for (String last : lastLines) {
+            // 66 lines of 3 bytes and two bytes more.
+            int[] packed = new Bits().block(true, 1).letters("bB\n").letter(283).number(0, 5)
+                    .distance(2).letters(last).letter(256).bytes();
+            House h = base("200 bytes", "bD");
+            h.entry("SbA", 8, packed).archive(1);
+            h.due("append(0, 1)", h.x.append(0, 1), true);
+            h.due("content(8, 199)", h.x.content(8, 199), last.charAt(1));
+            h.due("content(8, 200)", h.x.content(8, 200), -1);
+            h.serves(0, "bA", 2);
+            h.nextFails(15, number("bD"));
+            dueNextName(h, "bB");
+            if (last.equals("bC")) {
+                dueNextName(h, "bC");
+            } else if (last.contains("b")) {
+                h.nextFails(13, -1);
+            }
+            h.dueNext(-1);
+        }
     }
 
     /** Promise 17: "IllegalStateException for the faults 13 to 15; it goes on behind." */

@@ -28,6 +28,7 @@ public final class SoundEdgesTest {
         contentWithItsSum();
         storedUpTo200();
         smallestArchive();
+        largestArchive();
         CHECK.end();
     }
 
@@ -350,6 +351,25 @@ public final class SoundEdgesTest {
             }
             h.due("all(0, a, 0)", h.x.all(0, 'a', 0), -1);
             h.fails(0, "bA", 1, "bA");
+        }
+    }
+
+    /** In an archive of 240 bytes a directory may seem to go on behind them, or lie there. */
+    private static void largestArchive() {
+        int[] free = new int[217];
+        Arrays.fill(free, 4);
+        for (int from = 180; from < 260; from += 20) {
+            Forge forge = withWitness().free(free).free(4, 4, 4);
+            House h = due("240 bytes", forge, true);
+            for (int d = from; d < from + 20 && d < 256; d++) {
+                h.set(0, 238, d);
+                h.due("content(0, 0) with d " + d, h.x.content(0, 0), d == 223 ? 'W' : -2);
+                h.due("spoil n", h.x.spoil(0, 237, 1 ^ 6), true);
+                h.due("content(0, 0) with d " + d + " and 6 told", h.x.content(0, 0), -2);
+                h.due("spoil n back", h.x.spoil(0, 237, 1 ^ 6), true);
+            }
+            h.set(0, 239, 255);
+            h.due("content(0, 0) with d far out", h.x.content(0, 0), -2);
         }
     }
 }
