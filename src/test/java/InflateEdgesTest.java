@@ -614,12 +614,20 @@ public final class InflateEdgesTest {
             int[] row = whole[k].bytes();
             for (int n = 0; n < row.length; n++) {
                 Packed.due(CHECK, k + " cut at " + n, Arrays.copyOf(row, n), CORRUPT);
+                Packed.due(CHECK, k + " cut at " + n + " of 120", upTo120(row, n), CORRUPT);
             }
             Packed.due(CHECK, k + " whole", row, contents[k]);
         }
         due("a last block that is not there", bits().stored(false, "abc"), CORRUPT);
         due("nothing", bits(), CORRUPT);
         due("the head of a block", bits().block(true, 0), CORRUPT);
+    }
+
+    /** A stored block and n of the bytes, as many as can be drafted: nothing lies behind them. */
+    private static int[] upTo120(int[] row, int n) {
+        int[] all = Arrays.copyOf(bits().stored(false, "p".repeat(115 - n)).bytes(), 120);
+        System.arraycopy(row, 0, all, 120 - n, n);
+        return all;
     }
 
     /** "Behind the last block what is left of the byte is passed, and no byte may be left." */
