@@ -995,7 +995,9 @@ public final class ClassHouse {
         }
 
         void build(int[] bits, int from, int n) {
-            Arrays.fill(counts, 0);
+            for (int b = 0; b <= LONGEST; b++) {
+                counts[b] = 0;
+            }
             for (int i = 0; i < n; i++) {
                 counts[bits[from + i]]++;
             }

@@ -1,5 +1,5 @@
 /** A ClassHouse whose calls are counted, since what it answers behind the 512th is free. */
-final class Counted {
+final class Counted implements Face {
     static final int MOST_CALLS = 512;
 
     private final ClassHouse house = new ClassHouse();
@@ -24,7 +24,8 @@ final class Counted {
         return house;
     }
 
-    boolean put(long v, int n) {
+    @Override
+    public boolean put(long v, int n) {
         return called().put(v, n);
     }
 
@@ -42,63 +43,78 @@ final class Counted {
         return all;
     }
 
-    boolean enter(int name, int method) {
+    @Override
+    public boolean enter(int name, int method) {
         return called().enter(name, method);
     }
 
-    boolean finish(int slot) {
+    @Override
+    public boolean finish(int slot) {
         return called().finish(slot);
     }
 
-    boolean spoil(int slot, int at, int b) {
+    @Override
+    public boolean spoil(int slot, int at, int b) {
         return called().spoil(slot, at, b);
     }
 
-    int peek(int slot, int at) {
+    @Override
+    public int peek(int slot, int at) {
         return called().peek(slot, at);
     }
 
-    int open(int parent) {
+    @Override
+    public int open(int parent) {
         return called().open(parent);
     }
 
-    boolean append(int loader, int slot) {
+    @Override
+    public boolean append(int loader, int slot) {
         return called().append(loader, slot);
     }
 
-    boolean close(int loader) {
+    @Override
+    public boolean close(int loader) {
         return called().close(loader);
     }
 
-    int load(int loader, int name) {
+    @Override
+    public int load(int loader, int name) {
         return called().load(loader, name);
     }
 
-    int fault() {
+    @Override
+    public int fault() {
         return called().fault();
     }
 
-    int culprit() {
+    @Override
+    public int culprit() {
         return called().culprit();
     }
 
-    int type(int k, int what) {
+    @Override
+    public int type(int k, int what) {
         return called().type(k, what);
     }
 
-    int all(int loader, int name, int k) {
+    @Override
+    public int all(int loader, int name, int k) {
         return called().all(loader, name, k);
     }
 
-    int content(int place, int i) {
+    @Override
+    public int content(int place, int i) {
         return called().content(place, i);
     }
 
-    int services(int loader, int name) {
+    @Override
+    public int services(int loader, int name) {
         return called().services(loader, name);
     }
 
-    int next() {
+    @Override
+    public int next() {
         return called().next();
     }
 }

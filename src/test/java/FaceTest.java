@@ -17,8 +17,9 @@ public final class FaceTest {
         "int services(int, int)", "int type(int, int)"
     };
 
-    public static void main(String[] args) {
+    public static void main(String[] args) throws ReflectiveOperationException {
         hasTheFaceOnly();
+        tellsWhatItThrows();
         isEmptyWhenNew();
         sharesNothingWithOthers();
         CHECK.end();
@@ -53,6 +54,28 @@ public final class FaceTest {
         CHECK.due("its parameters", all[0].getParameterCount(), 0);
         CHECK.due("the class is final", Modifier.isFinal(ClassHouse.class.getModifiers()), true);
         CHECK.due("NONE", ClassHouse.NONE, -1);
+    }
+
+    /** The throws clauses of load(), services() and next(), and what else the face says. */
+    private static void tellsWhatItThrows() throws ReflectiveOperationException {
+        String many = "[class java.lang.IndexOutOfBoundsException, "
+                + "class java.util.NoSuchElementException, "
+                + "class java.lang.UnsupportedOperationException, "
+                + "class java.lang.IllegalArgumentException, "
+                + "class java.lang.IllegalStateException]";
+        for (Method m : ClassHouse.class.getDeclaredMethods()) {
+            if (Modifier.isPublic(m.getModifiers())) {
+                String want = m.getName().matches("load|services") ? many
+                        : m.getName().equals("next") ? "[class java.lang.IllegalStateException]"
+                        : "[]";
+                CHECK.due(m.getName() + " throws", Arrays.toString(m.getExceptionTypes()), want);
+                CHECK.due(m + " is of an object", Modifier.isStatic(m.getModifiers()), false);
+            }
+        }
+        CHECK.due("NONE", ClassHouse.class.getDeclaredField("NONE").toString(),
+                "public static final int ClassHouse.NONE");
+        CHECK.due("the constructor", ClassHouse.class.getDeclaredConstructor().toString(),
+                "public ClassHouse()");
     }
 
     private static void isEmptyWhenNew() {

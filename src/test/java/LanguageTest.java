@@ -6,6 +6,7 @@ import java.nio.file.Files;
 import java.nio.file.Path;
 import java.util.ArrayList;
 import java.util.List;
+import java.util.Set;
 import java.util.regex.Matcher;
 import java.util.regex.Pattern;
 
@@ -24,6 +25,10 @@ public final class LanguageTest {
         throwsAsListed(code);
         hasShortMethods(code);
         hasFewMembers();
+        Calls calls = Calls.in(SOURCE);
+        callsOnly(calls);
+        goesNotDeep(calls);
+        makesNothing(calls);
         CHECK.end();
     }
 
@@ -112,5 +117,46 @@ public final class LanguageTest {
                 CHECK.due(m + " takes seven at most", m.getParameterCount() <= 7, true);
             }
         }
+    }
+
+    /** Rule 4, of all that is called. */
+    private static void callsOnly(Calls calls) {
+        int seen = 0;
+        for (String method : calls.calls.keySet()) {
+            for (String callee : calls.calls.get(method)) {
+                boolean own = callee.startsWith("ClassHouse");
+                seen += own ? 1 : 0;
+                CHECK.due(method + " calls " + callee, own || callee.matches(
+                        "java\\.util\\.Arrays\\.fill|java\\.lang\\.System\\.arraycopy"
+                        + "|java\\.lang\\.Math\\.min"
+                        + "|java\\.(lang|util)\\." + EXCEPTIONS + "\\.<init>"), true);
+            }
+        }
+        CHECK.due("calls were found", seen > 100, true);
+    }
+
+    /** Rule 11: "calls that are no recursion go at most eight deep", the library's with them. */
+    private static void goesNotDeep(Calls calls) {
+        int deepest = 0;
+        for (String method : calls.calls.keySet()) {
+            List<String> chain = calls.longestFrom(method, Set.of());
+            deepest = Math.max(deepest, chain.size());
+            CHECK.due("eight deep at most: " + chain, chain.size() <= 8, true);
+        }
+        CHECK.due("chains were found", deepest > 4, true);
+    }
+
+    /** Rule 12, kept so that only constructors and throws make objects. */
+    private static void makesNothing(Calls calls) {
+        int seen = 0;
+        for (String method : calls.made.keySet()) {
+            boolean first = method.endsWith("<init>") || method.equals("fields");
+            for (String what : calls.made.get(method)) {
+                seen++;
+                CHECK.due(method + " makes " + what,
+                        first || what.matches(EXCEPTIONS), true);
+            }
+        }
+        CHECK.due("objects were found that are made", seen > 20, true);
     }
 }
