@@ -141,14 +141,6 @@ final class Chance {
         }
     }
 
-    int[] bytes(int most) {
-        int[] row = new int[below(most + 1)];
-        for (int i = 0; i < row.length; i++) {
-            row[i] = below(256);
-        }
-        return row;
-    }
-
     /** A text over few bytes, so that much of it comes again. */
     int[] text(int most) {
         int few = of(1, 2, 4, 30, 256);

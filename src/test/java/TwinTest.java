@@ -80,7 +80,7 @@ public final class TwinTest {
 
     private void makeArchive(int slot) {
         if (both.twin.hasDraft()) {
-            both.enter('x', 0);
+            both.enter('y', 0);
         }
         if (slot == 0) {
             enterRow("aA", House.file(1, House.PUBLIC, "aA", ""));
@@ -96,6 +96,8 @@ public final class TwinTest {
         if (kind == 0) {
             both.put(chance.number(), chance.wild(10));
             both.enter(chance.entryName(), chance.of(0, 8, 0, 1));
+        } else if (kind == 19) {
+            enterRow(chance.of("x", "yy", "zzz"), chance.text(125));
         } else if (kind < 5) {
             enterRow("M", House.bytes(chance.manifest()));
         } else if (kind < 9) {

@@ -72,7 +72,7 @@ public final class UseTest {
     /** 18 classes, each below the one before, as three full archives have them. */
     private static House chain(String about) {
         House h = new House(CHECK, about);
-        h.simple("aA", "").archive(0);
+        h.simple("aA", "").text("SaA", "dF\nbA\n").archive(0);
         String before = "aA";
         for (int slot = 1; slot < 4; slot++) {
             for (int i = 0; i < 6; i++) {
@@ -104,6 +104,15 @@ public final class UseTest {
             h.due("the super class of " + n, h.x.type(n, 3), letter == 0 ? 0 : n - 1);
         }
         h.due("no class behind", h.x.type(73, 0), -1);
+        servesTheLast(h);
+    }
+
+    /** The first class is above the last one, "of these, and so on", 18 super classes further up. */
+    private static void servesTheLast(House h) {
+        h.serves(0, "aA", 1);
+        h.dueNext(72);
+        h.dueNext(55);
+        h.dueNext(-1);
     }
 
     /** A circle at the far end of the longest chain, through all loaders, is found. */
